@@ -630,7 +630,10 @@ public final class NegotiatedWires {
         }
 
         void need(char sign) {
-            if (!takes(sign)) {
+            skipBlanks();
+            if (at < length && bytes[at] == sign) {
+                at++;
+            } else {
                 fail(CANNOT_STAND, at);
             }
         }

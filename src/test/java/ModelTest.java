@@ -3,7 +3,7 @@ import java.util.Random;
 
 /** Runs of drawn calls, the program and the naive model asked side by side. */
 public final class ModelTest {
-    private static final int OBJECTS = 160;
+    private static final int OBJECTS = 600;
     private static final int CALLS = 500;
     private static final long NO_SUCH = Long.MAX_VALUE;
     private static final long WRONG = Long.MAX_VALUE - 1;
@@ -48,8 +48,11 @@ public final class ModelTest {
         return random.nextInt(n);
     }
 
-    /** Mostly within 0 to n - 1, now and then beyond. */
+    /** Mostly within 0 to n - 1, now and then beyond, also far beyond. */
     private int about(int n) {
+        if (r(400) == 0) {
+            return r(2) == 0 ? random.nextInt() : r(2) == 0 ? Integer.MIN_VALUE : Integer.MAX_VALUE;
+        }
         return r(25) == 0 ? r(3) == 0 ? -1 - r(3) : n + r(3) : r(Math.max(1, n));
     }
 
@@ -75,28 +78,34 @@ public final class ModelTest {
         return s.toString();
     }
 
-    private int side = 8;
-    private int netsTold;
+    // The board that is there now.
+    private int columns = 4;
+    private int rows = 4;
+    private int nets;
 
     private String boardText() {
         StringBuilder s = new StringBuilder();
-        side = r(4) == 0 ? 8 : 2 + r(5);
+        int wide = r(3) == 0 ? 8 : 2 + r(5);
+        int high = r(3) == 0 ? 8 : 2 + r(5);
         if (r(6) > 0) {
-            s.append(spaced("size", num(side, side), num(2, 8), ";"));
+            s.append(spaced("size", num(wide, wide), num(high, high), ";"));
+        } else {
+            wide = 4;
+            high = 4;
         }
-        netsTold = r(9) == 0 ? 0 : 1 + r(6);
-        if (r(60) == 0) {
-            netsTold = 7;
-        }
-        for (int i = 0; i < netsTold; i++) {
+        int told = r(9) == 0 ? 0 : r(40) == 0 ? 7 : 1 + r(6);
+        for (int i = 0; i < told; i++) {
             s.append(spaced("net", num(0, 9), r(2) == 0 ? num(0, 9) : num(0, 60), ";"));
         }
-        int clauses = r(30);
-        if (r(50) == 0) {
-            clauses = 61;
+        for (int i = 0; i < told && told < 7; i++) {
+            int pins = r(9) == 0 ? r(2) : r(60) == 0 ? 5 : 2 + r(3);
+            for (int k = 0; k < pins; k++) {
+                s.append(spaced("pin", num(i, i), coordinate(wide), coordinate(high), ";"));
+            }
         }
+        int clauses = r(60) == 0 ? 61 : r(14);
         for (int i = 0; i < clauses; i++) {
-            s.append(clauseText());
+            s.append(clauseText(coordinate(wide), coordinate(high)));
         }
         if (r(20) == 0) {
             s.append(spaced("size", num(2, 8), num(2, 8), ";"));
@@ -104,20 +113,19 @@ public final class ModelTest {
         return s + blank();
     }
 
-    private String clauseText() {
-        int reach = r(8) == 0 ? 7 : side - 1;
-        String x = num(0, reach);
-        String y = num(0, reach);
-        switch (r(10)) {
+    private String coordinate(int side) {
+        return num(0, r(12) == 0 ? 7 : side - 1);
+    }
+
+    private String clauseText(String x, String y) {
+        switch (r(6)) {
             case 0:
+                return spaced("gain", num(0, 9), ";");
             case 1:
-                return spaced("wall", x, y, ";");
             case 2:
                 return spaced("wide", x, y, num(1, 3), ";");
-            case 3:
-                return spaced("gain", num(0, 9), ";");
             default:
-                return netsTold == 0 ? "" : spaced("pin", num(0, netsTold - 1), x, y, ";");
+                return spaced("wall", x, y, ";");
         }
     }
 
@@ -156,7 +164,7 @@ public final class ModelTest {
     }
 
     private String stepText(int depth) {
-        String net = num(0, Math.max(0, Math.min(5, netsTold - 1)));
+        String net = num(0, Math.max(0, nets - 1));
         switch (r(depth > 0 ? 12 : 10)) {
             case 0:
                 return spaced("rip", net, ";");
@@ -167,7 +175,7 @@ public final class ModelTest {
             case 4:
                 return spaced("crit", net, num(0, 9), ";");
             case 5:
-                return spaced("block", num(0, side - 1), num(0, Math.min(3, side - 1)), ";");
+                return spaced("block", num(0, columns - 1), num(0, rows - 1), ";");
             case 6:
                 return spaced("ease", r(2) == 0 ? num(1, 99) : num(1, 3), ";");
             case 10:
@@ -178,11 +186,19 @@ public final class ModelTest {
         }
     }
 
+    /** Now and then a work that goes far towards the last round. */
+    private String anyWorkText() {
+        if (r(40) == 0) {
+            return "again 40[round;round;again 4[round;];];";
+        }
+        return workText(r(20) == 0 ? 7 : 2, 9);
+    }
+
     private String bookText() {
         StringBuilder s = new StringBuilder();
         int lines = r(4) == 0 ? r(10) : r(3);
         for (int i = 0; i < lines; i++) {
-            s.append(spaced(num(0, side - 1), num(0, Math.min(3, side - 1)), r(6) == 0 ? num(0, 6) : num(0, 2), ";"));
+            s.append(spaced(num(0, columns - 1), num(0, rows - 1), r(6) == 0 ? num(0, 6) : num(0, 2), ";"));
         }
         return s + blank();
     }
@@ -214,17 +230,20 @@ public final class ModelTest {
             }
             same("feed", () -> wires.feed(five[0], five[1], five[2], five[3], five[4]), () -> model.feed(five));
         }
-        return r(60) == 0 ? text.length() + r(40) - 20 : text.length();
+        return r(60) == 0 ? r(9) == 0 ? random.nextInt() : text.length() + r(40) - 20 : text.length();
     }
 
     private void text(int kind) {
         String text = mutate(kind == 0 ? boardText() : kind == 1 ? lawText(r(20) == 0 ? 7 : 2)
-                : kind == 2 ? workText(r(20) == 0 ? 7 : 2, 9) : bookText());
+                : kind == 2 ? anyWorkText() : bookText());
         int n = tell(text);
         trail.append("  text ").append(text).append('\n');
         switch (kind) {
             case 0:
                 same("board " + n, () -> wires.board(n), () -> model.board(n));
+                columns = model.told(0);
+                rows = model.told(1);
+                nets = model.told(2);
                 break;
             case 1:
                 same("law " + n, () -> wires.law(n), () -> model.law(n));
@@ -274,9 +293,9 @@ public final class ModelTest {
     }
 
     private void ask() {
-        int n = about(Math.min(6, netsTold));
-        int x = about(side);
-        int y = about(Math.min(4, side));
+        int n = about(nets);
+        int x = about(columns);
+        int y = about(rows);
         switch (r(20)) {
             case 0:
             case 1: {
@@ -316,7 +335,7 @@ public final class ModelTest {
                 same("tree " + n + " " + y, () -> wires.tree(n, y), () -> model.tree(n, y));
                 break;
             case 12: {
-                int other = about(Math.min(6, netsTold));
+                int other = about(nets);
                 same("meet " + n + " " + other, () -> wires.meet(n, other), () -> model.meet(n, other));
                 break;
             }
