@@ -1157,7 +1157,7 @@ public final class NegotiatedWires {
             refused = 0;
             for (int i = 0; i < STEPS_MOST * 50 && at < length; i++) {
                 int kind = kinds[at];
-                if (kind == STEP_CLOSE) {
+                if (kind == STEP_CLOSE && depth > 0) {
                     left[depth - 1]--;
                     boolean more = left[depth - 1] > 0;
                     depth -= more ? 0 : 1;
@@ -1172,7 +1172,7 @@ public final class NegotiatedWires {
                     at = seconds[at] + 1;
                     continue;
                 }
-                if (kind == STEP_AGAIN) {
+                if (kind == STEP_AGAIN && depth < OPEN_MOST) {
                     left[depth] = firsts[at];
                     depth++;
                 } else if (router.perform(state, kind, firsts[at], seconds[at])) {
@@ -1494,9 +1494,11 @@ public final class NegotiatedWires {
                     return other;
                 case STEP_BLOCK:
                     return turnWall(state, second * SIDE + first);
-                default:
+                case STEP_EASE:
                     easeAll(state, first);
                     return true;
+                default:
+                    return false;
             }
         }
 
@@ -1810,8 +1812,10 @@ public final class NegotiatedWires {
             int biggest = 0;
             for (int i = 0; i < found; i++) {
                 int uses = usesBehind[i * PLACES + p];
-                groups[uses]++;
-                biggest = groups[uses] > biggest ? groups[uses] : biggest;
+                if (uses >= 0 && uses < groups.length) {
+                    groups[uses]++;
+                    biggest = groups[uses] > biggest ? groups[uses] : biggest;
+                }
             }
             return biggest;
         }

@@ -1,12 +1,9 @@
-import java.util.NoSuchElementException;
 import java.util.Random;
 
 /** Runs of drawn calls, the program and the naive model asked side by side. */
 public final class ModelTest {
     private static final int OBJECTS = 600;
     private static final int CALLS = 500;
-    private static final long NO_SUCH = Long.MAX_VALUE;
-    private static final long WRONG = Long.MAX_VALUE - 1;
 
     private final Random random;
     private final NegotiatedWires wires = new NegotiatedWires();
@@ -19,24 +16,10 @@ public final class ModelTest {
         random = new Random(seed);
     }
 
-    private interface Ask {
-        int get();
-    }
-
-    private static long answer(Ask ask) {
-        try {
-            return ask.get();
-        } catch (NoSuchElementException e) {
-            return NO_SUCH;
-        } catch (IllegalArgumentException e) {
-            return WRONG;
-        }
-    }
-
-    private void same(String call, Ask program, Ask due) {
+    private void same(String call, Kit.Ask program, Kit.Ask due) {
         calls++;
-        long got = answer(program);
-        long want = answer(due);
+        int got = Kit.answer(program);
+        int want = Kit.answer(due);
         trail.append(call).append(" -> ").append(want).append('\n');
         if (got != want) {
             differing++;
