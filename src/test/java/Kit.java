@@ -1,3 +1,5 @@
+import java.util.ArrayList;
+import java.util.List;
 import java.util.NoSuchElementException;
 
 /** One object under test, told texts as texts; what is not as due is printed and counted. */
@@ -6,6 +8,9 @@ final class Kit {
     static final int WRONG = 1_000_002;
     private static int wrong;
     private static int asked;
+    private static final List<String> SAID = new ArrayList<>();
+    private static String sentence = "";
+    private static int askedAhead;
 
     final NegotiatedWires wires = new NegotiatedWires();
 
@@ -29,7 +34,36 @@ final class Kit {
         asked++;
         if (got != want) {
             wrong++;
-            System.out.println(what + " answered " + spell(got) + ", due is " + spell(want));
+            System.out.println(what + " answered " + spell(got) + ", due is " + spell(want)
+                    + (sentence.isEmpty() ? "" : "\n    by: " + sentence));
+        }
+    }
+
+    /** The words of the document that the next answers are about; each must be asked about. */
+    static void says(String words) {
+        endSentence();
+        sentence = words;
+        askedAhead = asked;
+        SAID.add(words);
+    }
+
+    static void endSentence() {
+        if (!sentence.isEmpty() && asked == askedAhead) {
+            wrong++;
+            System.out.println("nothing is asked about: " + sentence);
+        }
+        sentence = "";
+    }
+
+    static List<String> said() {
+        return SAID;
+    }
+
+    static void same(String what, String want, String got) {
+        asked++;
+        if (!want.equals(got)) {
+            wrong++;
+            System.out.println(what + " is\n" + got + ", due is\n" + want + "\n    by: " + sentence);
         }
     }
 
@@ -42,6 +76,52 @@ final class Kit {
         System.out.println(name + ": " + asked + " answers, " + wrong + " not as due");
         if (wrong > 0) {
             System.exit(1);
+        }
+    }
+
+    static Kit of(String board) {
+        Kit k = new Kit();
+        int got = answer(() -> k.board(board));
+        if (got < 0) {
+            wrong++;
+            System.out.println("a board of a test has a fault: " + board);
+        }
+        return k;
+    }
+
+    /** All that can be seen of a small board without changing it, but for counts of refused calls. */
+    String print() {
+        StringBuilder s = new StringBuilder(state());
+        s.append(" / ").append(wires.told(11)).append(' ').append(wires.told(10)).append(' ').append(wires.count(0));
+        s.append(' ').append(wires.count(2)).append(' ').append(wires.would(7, 2, 3, 4, 1, 5, 6, 1));
+        s.append(' ').append(wires.would(9, 0, 9, 40, 3, 1, 2, 0)).append(' ').append(wires.fits(0));
+        return s.append(' ').append(wires.fits(1)).append(' ').append(wires.look(0)).toString();
+    }
+
+    /** All that a work could change. */
+    String state() {
+        StringBuilder s = new StringBuilder();
+        for (int what = 0; what <= 12; what++) {
+            s.append(what == 10 || what == 11 ? 0 : wires.told(what)).append(' ');
+        }
+        for (int net = 0; net < wires.told(2); net++) {
+            s.append(wires.net(net, 0)).append('c');
+        }
+        for (int y = 0; y < wires.told(1); y++) {
+            for (int x = 0; x < wires.told(0); x++) {
+                printPlace(s, x, y);
+            }
+        }
+        return s.toString();
+    }
+
+    private void printPlace(StringBuilder s, int x, int y) {
+        s.append(' ');
+        for (int what = 0; what <= 3; what++) {
+            s.append(wires.place(x, y, what)).append(',');
+        }
+        for (int net = 0; net < wires.told(2); net++) {
+            s.append(wires.parent(net, x, y)).append(';');
         }
     }
 
