@@ -809,8 +809,11 @@ public final class NegotiatedWires {
                 text.fail(TOO_MANY, text.from);
                 return;
             }
-            pins[net * PINS_MOST + pinCounts[net]] = readPlace(text);
-            pinCounts[net]++;
+            int p = readPlace(text);
+            if (!text.failed()) {
+                pins[net * PINS_MOST + pinCounts[net]] = p;
+                pinCounts[net]++;
+            }
         }
 
         /** Only now the size is known for all, so only now places beyond it can be left out. */

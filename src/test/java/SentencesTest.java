@@ -46,6 +46,7 @@ public final class SentencesTest {
         StepSentences.all();
         AskedSentences.all();
         PromiseSentences.all();
+        CornerSentences.all();
         Kit.endSentence();
         boolean strict = args.length > 0 && args[0].equals("strict");
         if (Files.exists(DOCUMENT) && !documentIsCovered() && strict) {
