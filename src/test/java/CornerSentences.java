@@ -144,6 +144,17 @@ final class CornerSentences {
         Kit.due("six lays", 6, () -> k.wires.fits(0));
         k.book("0 1 5;");
         Kit.due("six rips", 6, () -> k.wires.fits(0));
+
+        Kit.says("LOOK: 0 the PLACE (10 times y, and x), 1 how many are left at the worst;");
+        for (int i = 0; i < 6; i++) {
+            s.append("pin ").append(i).append(" 1 1;");
+        }
+        Kit pairs = kit(s.toString(), "lay 0;lay 1;lay 2;lay 3;lay 4;lay 5;");
+        pairs.book("0 1 6;0 0 0;1 0 0;");
+        Kit.due("the last place, six uses", 11, () -> pairs.wires.look(0));
+        Kit.due("by them none is ruled out", 6, () -> pairs.wires.look(1));
+        pairs.book("0 1 6;");
+        Kit.due("all places alike", 0, () -> pairs.wires.look(0));
     }
 
     private static void tight() {
@@ -175,6 +186,66 @@ final class CornerSentences {
         Kit.due("to the east", 10, () -> wide.wires.spared(0, 6, 3));
         Kit.due("to the north", 10, () -> wide.wires.spared(0, 3, 0));
         Kit.due("to the west", 10, () -> wide.wires.spared(0, 0, 3));
+    }
+
+    /** Dear and cheap places in turn, so that hardly any way is the straight one. */
+    private static void rugged() {
+        Kit.says("the least sum of COSTS of PLACES that one enters from the TREE on, itself, too, neighbour by neighbour, "
+                + "no walls.");
+        for (int more = 0; more < 20; more++) {
+            int odd = more;
+            Kit k = kit("size 8 8;wall 3 3;wall 4 3;wall 4 4;net 0 60;pin 0 " + more % 8 + " " + more / 8 + ";", "lay 0;");
+            k.law("1 + (col * 37 + row * 59 + col * row * " + odd + ") * 17 % 101");
+            int[] due = new int[64];
+            java.util.Arrays.fill(due, -1);
+            due[more] = 0;
+            for (int turn = 0; turn < 64 * 64; turn++) {
+                int x = turn % 8;
+                int y = turn / 8 % 8;
+                int price = 1 + (x * 37 + y * 59 + x * y * odd) * 17 % 101;
+                boolean wall = y == 3 && (x == 3 || x == 4) || y == 4 && x == 4;
+                int[] beside = {y > 0 ? due[8 * y + x - 8] : -1, x < 7 ? due[8 * y + x + 1] : -1,
+                    y < 7 ? due[8 * y + x + 8] : -1, x > 0 ? due[8 * y + x - 1] : -1};
+                for (int near : beside) {
+                    if (!wall && near >= 0 && (due[8 * y + x] < 0 || near + price < due[8 * y + x])) {
+                        due[8 * y + x] = near + price;
+                    }
+                }
+            }
+            rows("by odd " + odd, due, i -> k.wires.dist(0, i % 8, i / 8));
+            for (int pin = more % 7; pin < 64; pin += 7) {
+                if (due[pin] >= 0) {
+                    laidAlong(more, pin, odd, due[pin]);
+                }
+            }
+        }
+    }
+
+    /** What a tree of two pins costs is how far they are from one another. */
+    private static void laidAlong(int root, int pin, int odd, int far) {
+        Kit k = kit("size 8 8;wall 3 3;wall 4 3;wall 4 4;net 0 60;pin 0 " + root % 8 + " " + root / 8 + ";pin 0 "
+                + pin % 8 + " " + pin / 8 + ";");
+        k.law("1 + (col * 37 + row * 59 + col * row * " + odd + ") * 17 % 101");
+        k.work("lay 0;");
+        Kit.due("laid from " + root + " to " + pin + " by odd " + odd, far, () -> k.wires.dear(0));
+    }
+
+    private static void behindTheLastRound() {
+        Kit.says("Asked, nothing stays changed; rounds go by as by round (beyond ROUND 400, too).");
+        String four = "again 40[round;round;round;round;];";
+        Kit k = kit("size 3 3;net 0 9;net 0 9;pin 0 0 0;pin 0 2 0;pin 1 1 0;");
+        k.law("1 + over * most[0, round - 401] * 5");
+        for (int i = 0; i < 3; i++) {
+            k.work(four);
+        }
+        Kit.due("round 400", 400, () -> k.wires.told(3));
+        Kit.due("shared still", 1, () -> k.wires.told(5));
+        Kit.due("only round 402 makes it dear", 3, () -> k.wires.settled());
+        Kit.due("behind two rounds", 1, () -> k.wires.ahead(2, 0));
+        Kit.due("behind three", 0, () -> k.wires.ahead(3, 0));
+        Kit.due("no jam", 0, () -> k.wires.jam(0));
+        Kit.due("asked only", 400, () -> k.wires.told(3));
+        Kit.due("and shared still", 1, () -> k.wires.told(5));
     }
 
     private static void spans() {
@@ -293,6 +364,8 @@ final class CornerSentences {
         sixUses();
         tight();
         far();
+        rugged();
+        behindTheLastRound();
         spans();
         bytesBehind();
         boardsInTurn();
