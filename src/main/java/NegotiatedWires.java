@@ -12,7 +12,8 @@ public final class NegotiatedWires {
     private static final int PINS_MOST = 4;
     private static final int WAYS = 4;
     private static final int ROOT = 4;
-    private static final int FAR = Integer.MAX_VALUE;
+    // Above every sum of costs: 64 places of 999 at most each.
+    private static final int FAR = 1000000;
 
     private static final int TAPE_MOST = 600;
     private static final int LAW_MOST = 150;
